@@ -175,6 +175,7 @@ public final class WreckSky {
     // ---- what will be
 
     public int behind(int n, int what) {
+        // Only WRECKS that are now can be asked for, not those that will have broken off by then.
         if (!within(n, 0, MOST_AHEAD) || !within(what, 0, 2 + now.wreckCount)) {
             return BAD;
         }
@@ -609,10 +610,6 @@ public final class WreckSky {
             return false;
         }
 
-        boolean meets(Wreck other) {
-            return up && other.up && height == other.height && place == other.place;
-        }
-
         /** HARD by KIND, from what it would be for a mere WRECK. */
         int hardFrom(int asWreck) {
             switch (kind) {
@@ -767,9 +764,11 @@ public final class WreckSky {
             // What breaks off in this hour meets nobody before the next one.
             int known = wreckCount;
             for (int i = 0; i < known; i++) {
-                for (int j = i + 1; j < known; j++) {
-                    if (wrecks[i].meets(wrecks[j])) {
-                        breakUp(hardOf(wrecks[i]) < hardOf(wrecks[j]) ? wrecks[i] : wrecks[j]);
+                Wreck a = wrecks[i];
+                for (int j = i + 1; j < known && a.up; j++) {
+                    Wreck b = wrecks[j];
+                    if (a.place == b.place && a.height == b.height && b.up) {
+                        breakUp(hardOf(a) < hardOf(b) ? a : b);
                     }
                 }
             }
@@ -790,6 +789,7 @@ public final class WreckSky {
             if (draw() % 100 >= drag) {
                 return;
             }
+            // The document tells this draw ahead of the WRECKS that may be lacking, so it comes without them too.
             int lot = draw();
             if (wreckCount == 0) {
                 return;

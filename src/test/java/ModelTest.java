@@ -66,6 +66,8 @@ public final class ModelTest {
                 fault = tellHours();
             } else if (which < 16 && manner == 3) {
                 fault = crowd();
+            } else if (which < 22) {
+                fault = wild();
             } else {
                 fault = any();
             }
@@ -143,6 +145,16 @@ public final class ModelTest {
             case "count" -> call(name, small(8));
             default -> call(name);
         };
+    }
+
+    /** Any call with any numbers, mostly far outside what it takes. */
+    private String wild() throws Exception {
+        String name = CALLED[lot.nextInt(CALLED.length)];
+        int[] args = new int[REAL.get(name).getParameterCount()];
+        for (int i = 0; i < args.length; i++) {
+            args[i] = lot.nextInt(3) == 0 ? lot.nextInt(3) : value();
+        }
+        return call(name, args);
     }
 
     private String setCall() throws Exception {
