@@ -786,15 +786,11 @@ public final class WreckSky {
         }
 
         private void sinkByLot() {
-            if (draw() % 100 >= drag) {
+            // Without WRECKS nothing is done behind the first draw, so z does not go on a second time either.
+            if (draw() % 100 >= drag || wreckCount == 0) {
                 return;
             }
-            // The document tells this draw ahead of the WRECKS that may be lacking, so it comes without them too.
-            int lot = draw();
-            if (wreckCount == 0) {
-                return;
-            }
-            Wreck w = wrecks[lot % wreckCount];
+            Wreck w = wrecks[draw() % wreckCount];
             if (!w.up) {
                 return;
             }

@@ -126,17 +126,15 @@ final class Model {
                     }
                 }
             }
-            if (draw() % 100 < drag) {
-                int lot = draw();
-                if (!pieces.isEmpty()) {
-                    int which = lot % pieces.size();
-                    Piece p = pieces.get(which);
-                    if (p.up && p.height == 0) {
-                        pieces.set(which, p.up(false));
-                        burnt++;
-                    } else if (p.up) {
-                        pieces.set(which, p.height(p.height - 1));
-                    }
+            boolean sinks = draw() % 100 < drag;
+            if (sinks && !pieces.isEmpty()) {
+                int which = draw() % pieces.size();
+                Piece p = pieces.get(which);
+                if (p.up && p.height == 0) {
+                    pieces.set(which, p.up(false));
+                    burnt++;
+                } else if (p.up) {
+                    pieces.set(which, p.height(p.height - 1));
                 }
             }
             hour++;

@@ -340,8 +340,16 @@ public final class PromisesTest {
         WreckSky none = new WreckSky();
         none.drag(100);
         none.hours(1);
-        z = (1 * 1103515245 + 12345) * 1103515245 + 12345;
-        due("12: draws without wrecks", none.count(7), z);
+        due("12: one draw without wrecks", none.count(7), 1103527590);
+        none.seed(1);
+        none.hours(3);
+        due("12: one draw an hour without wrecks", none.count(7), z);
+        none.wreck(0, 3, 0, 0, 5);
+        none.set(0, 5, 0);
+        none.seed(1);
+        none.hours(1);
+        due("12: two draws with one that is gone", none.count(7), 1103527590 * 1103515245 + 12345);
+        due("12: what is gone does not sink", none.told(0, 1), 3);
         // The first draw from 1 is 4310654; its rest by 100 is 54.
         WreckSky edge = with(0, 5, 0, 0, 5);
         edge.drag(54);
