@@ -41,7 +41,7 @@ public final class ModelTest {
         int runs = args.length > 0 ? Integer.parseInt(args[0]) : 300;
         int wrong = 0;
         for (int seed = 1; seed <= runs && wrong < 3; seed++) {
-            String fault = new ModelTest(seed).run(seed % 4);
+            String fault = new ModelTest(seed).run(seed % 6);
             if (fault != null) {
                 wrong++;
                 System.out.println("run " + seed + ": " + fault);
@@ -52,12 +52,14 @@ public final class ModelTest {
     }
 
     private String run(int manner) throws Exception {
+        String fault = null;
         if (manner > 0) {
             call("seed", lot.nextInt());
-            call("deal", 1 + lot.nextInt(14));
+            call("deal", manner == 5 ? 14 : 1 + lot.nextInt(14));
             call("drag", manner == 1 ? 0 : lot.nextInt(101));
         }
-        String fault = null;
+        if (manner == 4) fault = late();
+        if (manner == 5) fault = full();
         while (calls < CALLS && fault == null) {
             int which = lot.nextInt(100);
             if (which < 6) {
@@ -73,6 +75,30 @@ public final class ModelTest {
             }
         }
         return fault == null ? everything() : fault;
+    }
+
+    /** THE HOUR is near 9999, so that the bound is met soon. */
+    private String late() throws Exception {
+        String fault = null;
+        while (model.s.hour < 9900 && fault == null) {
+            fault = call("hours", 100);
+        }
+        return fault == null ? call("hours", 60 + lot.nextInt(40)) : fault;
+    }
+
+    /** All that has a bound is full, or one short of it. */
+    private String full() throws Exception {
+        String fault = null;
+        for (int i = lot.nextInt(2); i < 14 && fault == null; i++) {
+            fault = feedText();
+        }
+        for (int i = lot.nextInt(3); i < 60 && fault == null; i++) {
+            fault = call("tell", value());
+        }
+        for (int sheet = 0; sheet < 4 && fault == null; sheet++) {
+            fault = call("sheet", sheet, lot.nextInt(2), 24 - lot.nextInt(2));
+        }
+        return fault;
     }
 
     /** null, if both answer alike. */
